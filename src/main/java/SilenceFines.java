@@ -44,7 +44,8 @@ public final class SilenceFines {
     private final Adviser adviser;
     private final Minutes minutes;
     private final Sitting[] images;
-    private final boolean[] kept;
+    /** Which IMAGES were kept: a SET of them. */
+    private int kept;
 
     public SilenceFines() {
         house = new House();
@@ -58,7 +59,6 @@ public final class SilenceFines {
         for (int i = 0; i < IMAGES; i++) {
             images[i] = new Sitting(house);
         }
-        kept = new boolean[IMAGES];
     }
 
     // ---- the chamber
@@ -79,9 +79,7 @@ public final class SilenceFines {
         now.open();
         agenda.beats = 0;
         minutes.count = 0;
-        for (int i = 0; i < IMAGES; i++) {
-            kept[i] = false;
-        }
+        kept = 0;
         return house.members;
     }
 
@@ -296,23 +294,29 @@ public final class SilenceFines {
     }
 
     public int keep(int i) {
-        if (i < 0 || i >= IMAGES) {
+        Sitting image = imageOf(i);
+        if (image == null) {
             return UNKNOWN;
         }
-        images[i].takeFrom(now);
-        kept[i] = true;
+        image.takeFrom(now);
+        kept |= 1 << i;
         return 1;
     }
 
     public int goBack(int i) {
-        if (i < 0 || i >= IMAGES) {
+        Sitting image = imageOf(i);
+        if (image == null) {
             return UNKNOWN;
         }
-        if (!kept[i]) {
+        if (!has(kept, i)) {
             return NOT;
         }
-        now.takeFrom(images[i]);
+        now.takeFrom(image);
         return 1;
+    }
+
+    private Sitting imageOf(int i) {
+        return i >= 0 && i < IMAGES ? images[i] : null;
     }
 
     // ---- what arguments may be
@@ -386,9 +390,9 @@ public final class SilenceFines {
          * In the long run one speaks in at most one of 1 + R beats, since each
          * beat of AIR takes R beats of RESTS: a SET whose shares are less than
          * a whole must fall silent. With R from 1 to 3 a whole is enough too,
-         * by rounds that need no more than one beat of AIR: R 1 1 take turns;
-         * three of R 2 at most take turns; R 1 and two of R 3 at most speak
-         * as a b a c; any four take turns. No other SET makes up a whole.
+         * by rounds that need but one beat of AIR: two of R 1 take turns; so do
+         * three of R 2 or less, and any four; one of R 1 with two others speaks
+         * in every second beat, as a b a c. No other SET makes up a whole.
          */
         boolean canSpeakForEver(int set) {
             int shares = 0;
@@ -804,7 +808,8 @@ public final class SilenceFines {
 
         void advise(int m, Sitting now, Plan plan) {
             best = ABOVE_ALL;
-            if (m < 0 || m >= SEATS) {
+            Sitting first = rowOf(0);
+            if (m < 0 || m >= SEATS || first == null) {
                 return;
             }
             speaker = m;
@@ -813,7 +818,7 @@ public final class SilenceFines {
             for (int i = 0; i < ANSWER_BEATS; i++) {
                 others[i] = plan.setOf(i) & ~(1 << m);
             }
-            rows[0].takeFrom(now);
+            first.takeFrom(now);
             search(0, 0);
         }
 
@@ -825,30 +830,37 @@ public final class SilenceFines {
             return (int) (best & (1 << COUNT_SHIFT) - 1);
         }
 
+        private Sitting rowOf(int i) {
+            return i >= 0 && i <= ANSWER_BEATS ? rows[i] : null;
+        }
+
         private void search(int i, int set) {
-            if (i < 0 || i > ANSWER_BEATS || i > beats) {
+            Sitting row = rowOf(i);
+            if (row == null) {
                 return;
             }
-            long weight = weigh(rows[i], set);
+            long weight = weigh(row, set);
             if (weight >= best) {
                 return;
             }
-            if (i == beats) {
+            if (i >= beats) {
                 best = weight;
                 return;
             }
             descend(i, set, false);
-            if (rows[i].canSpeak(speaker)) {
+            if (row.canSpeak(speaker)) {
                 descend(i, set, true);
             }
         }
 
         private void descend(int i, int set, boolean speaks) {
-            if (i < 0 || i >= ANSWER_BEATS) {
+            Sitting row = rowOf(i);
+            Sitting next = rowOf(i + 1);
+            if (row == null || next == null || i >= ANSWER_BEATS) {
                 return;
             }
-            rows[i + 1].takeFrom(rows[i]);
-            rows[i + 1].goOn(speaks ? others[i] | 1 << speaker : others[i]);
+            next.takeFrom(row);
+            next.goOn(speaks ? others[i] | 1 << speaker : others[i]);
             search(i + 1, speaks ? set | 1 << i : set);
         }
 

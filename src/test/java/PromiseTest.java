@@ -133,6 +133,13 @@ public final class PromiseTest {
         text(" Member 1 1 1;", -11, 1);
         text("membe 1 1 1;", -11, 0);
         text("members 1 1 1;", -11, 0);
+        text("nember 1 1 1;", -11, 0);
+        text("memben 1 1 1;", -11, 0);
+        text("saw all 1 1;", -11, 0);
+        text("dough 1;", -11, 0);
+        text("law atopped 1 1;", -11, 4);
+        text("law cegan 1 1;", -11, 4);
+        text("law ill 1 1;", -11, 4);
         text("memberlaw", -11, 0);
         text("stopped", -11, 0);
         text("member", -11, 6);
@@ -319,6 +326,9 @@ public final class PromiseTest {
         SilenceFines x = Due.chamber("member 4 1 9;member 4 1 9;member 1 1 9;law all 11 0;", 3);
         x.beat(0);
         is("7 all: each a third, cut", x.member(0, 3) * 100 + x.member(1, 3) * 10 + x.member(2, 3), 333);
+        SilenceFines alone = Due.chamber("member 4 1 9;law all 11 0;", 1);
+        alone.beat(0);
+        is("7 all: one alone pays all of it", alone.member(0, 3), 11);
         SilenceFines nobody = new SilenceFines();
         nobody.law(2, 50, 0);
         is("7 all: no MEMBERS", nobody.beat(0), 0);
@@ -582,8 +592,19 @@ public final class PromiseTest {
         SilenceFines same = withPlan(three(), 0, 1, 2, 0, 4);
         same.law(2, 6, 4);
         Due.same("17 answer changes nothing", x, same);
+        answerFewestBeats();
         answerTwelveBeats();
         answerStopped();
+    }
+
+    /** To speak at once makes 0 pay 10 for the beat ahead: three beats then save no more than the last one alone. */
+    private static void answerFewestBeats() {
+        SilenceFines x = Due.chamber("member 3 3 99;member 4 1 99;law began 10 0;", 2);
+        x.beat(0);
+        x.law(2, 10, 0);
+        planOf(x, 0, 0, 0, 2, 0);
+        is("17 beat 4 alone or three beats: what 0 OWES more", x.answer(0, 0), 15);
+        is("17 the fewest beats, not the least SET", x.answer(0, 1), 16);
     }
 
     /** What comes behind the twelfth beat of the PLAN is not looked at. */

@@ -251,6 +251,11 @@ public final class BeatEdgeTest {
         }
         x.beat(16);
         is("7 a refused beat is none", x.told(6), 6);
+        SilenceFines long512 = new SilenceFines();
+        for (int i = 0; i < 511; i++) {
+            long512.beat(0);
+        }
+        is("7 THE BEAT by the 512th call", long512.told(6), 511);
     }
 
     /** The most that can be OWED by 512 calls stands in the answers, none wraps around. */

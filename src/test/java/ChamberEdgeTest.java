@@ -190,10 +190,19 @@ public final class ChamberEdgeTest {
                 is("3 chamber() of '" + TEXTS[i] + "'", x.chamber(), MEMBERS[i]);
                 is("3 fault()", x.fault(), NONE);
                 is("3 THE TEXT is empty", x.told(5), 0);
+                is("3 THE SEED stays", x.seed(1234567 + i), 1234567 + i);
                 SilenceFines y = new SilenceFines();
                 y.seed(1234567 + i);
                 Due.feed(y, TEXTS[i]);
                 y.chamber();
+                for (SilenceFines z : new SilenceFines[] {x, y}) {
+                    is("3 the first of a new PLAN", z.plan(0), 1);
+                    is("3 the first of a new RECORD", z.record(0, 1), 1);
+                    is("3 the second of a new RECORD", z.record(1, 1), 2);
+                }
+                if (MEMBERS[i] == 0) {
+                    is("3 no seat is left of the CHAMBER ahead: ways", x.fits(), 0);
+                }
                 Due.alike("3 anew by '" + TEXTS[i] + "'", x, y);
             }
         }

@@ -12,9 +12,12 @@ import java.util.Collections;
 import java.util.HashSet;
 import java.util.List;
 import java.util.Set;
+import java.util.regex.Matcher;
+import java.util.regex.Pattern;
 
 /** The face of the class, the words that LANGUAGE.md rules out, and the room that calls take. */
 public final class FaceTest {
+    private static final String SOURCE = "src/main/java/SilenceFines.java";
     private static final String[] FACE = {"answer(int,int)", "beat(int)", "chamber()", "drift(int)", "drop()",
         "ever(int)", "fault()", "feed(int,long)", "fits()", "follow()", "goBack(int)", "keep(int)", "law(int,int,int)",
         "laws(int)", "member(int,int)", "plan(int)", "premium(int,int)", "record(int,int)", "run(int,int)", "seed(int)",
@@ -74,8 +77,55 @@ public final class FaceTest {
         Due.is("public constants", constants, 5);
     }
 
+    /** Parameters, fields and their types, of the class and of each class inside it. */
+    private static void sizes() {
+        List<Class<?>> all = new ArrayList<>(List.of(SilenceFines.class.getDeclaredClasses()));
+        all.add(SilenceFines.class);
+        for (Class<?> one : all) {
+            for (Method m : one.getDeclaredMethods()) {
+                Due.is(one + ": " + m.getName() + " takes at most seven", m.getParameterCount() <= 7 ? 1 : 0, 1);
+            }
+            int fields = 0;
+            for (Field f : one.getDeclaredFields()) {
+                boolean constant = Modifier.isStatic(f.getModifiers());
+                fields += constant ? 0 : 1;
+                Class<?> type = f.getType();
+                while (type.isArray()) {
+                    type = type.getComponentType();
+                }
+                boolean allowed = type.isPrimitive() || !constant && all.contains(type);
+                Due.is(one + ": " + f.getName() + " has a type that may stand there", allowed ? 1 : 0, 1);
+                Due.is(one + ": " + f.getName() + ", if static, is final", constant && !Modifier.isFinal(f.getModifiers()) ? 1 : 0, 0);
+            }
+            Due.is(one + " has at most twenty fields, not " + fields, fields <= 20 ? 1 : 0, 1);
+        }
+    }
+
+    /** No method is longer than sixty lines; one begins and ends with the same indent. */
+    private static void lengths() throws IOException {
+        Pattern head = Pattern.compile("( {4}| {8})(?!if|else|for|while|do|switch)[A-Za-z].*\\) \\{");
+        List<String> lines = Files.readAllLines(Path.of(SOURCE));
+        int found = 0;
+        for (int first = 0; first < lines.size(); first++) {
+            Matcher method = head.matcher(lines.get(first));
+            if (method.matches()) {
+                int last = first;
+                while (last < lines.size() && !lines.get(last).equals(method.group(1) + "}")) {
+                    last++;
+                }
+                found++;
+                Due.is("the method at line " + (first + 1) + " has at most sixty lines", last - first < 60 ? 1 : 0, 1);
+            }
+        }
+        int methods = SilenceFines.class.getDeclaredMethods().length;
+        for (Class<?> inside : SilenceFines.class.getDeclaredClasses()) {
+            methods += inside.getDeclaredMethods().length;
+        }
+        Due.is("each of " + methods + " methods was measured", found >= methods ? 1 : 0, 1);
+    }
+
     private static void words() throws IOException {
-        String code = Files.readString(Path.of("src/main/java/SilenceFines.java"))
+        String code = Files.readString(Path.of(SOURCE))
             .replaceAll("(?s)/\\*.*?\\*/", " ").replaceAll("//[^\n]*", " ");
         for (String word : RULED_OUT) {
             boolean stands = Character.isLetter(word.charAt(0)) && Character.isLetter(word.charAt(word.length() - 1))
@@ -123,6 +173,8 @@ public final class FaceTest {
     public static void main(String[] args) throws IOException {
         constants();
         face();
+        sizes();
+        lengths();
         words();
         room();
         Due.end("FaceTest");
